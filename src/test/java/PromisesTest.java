@@ -124,6 +124,18 @@ public final class PromisesTest {
     return x;
   }
 
+  /** 0 has stretches of one place at its begin and its end: {0=1, 1=2, 2=3, 197=4, 198=5, 199=6}. */
+  private static Stepfunctions tipped() {
+    Stepfunctions x = new Stepfunctions();
+    x.flat(0, 3);
+    x.set(0, 0, 1, 1);
+    x.set(0, 1, 2, 2);
+    x.set(0, 197, 198, 4);
+    x.set(0, 198, 199, 5);
+    x.set(0, 199, 200, 6);
+    return x;
+  }
+
   private static void promise1() {
     Stepfunctions x = new Stepfunctions();
     for (int one = 0; one < 4; one++) {
@@ -145,6 +157,7 @@ public final class PromisesTest {
     due("{0=7, 50=8}", x.text(1));
     due(20, full().flat(0, 3));
     noFunction((y, one) -> y.flat(one, 10000));
+    noFunction((y, one) -> y.flat(one, 1));
     noValue((y, value) -> y.flat(1, value));
     losesWalkOver("3", PromisesTest::some, y -> y.flat(3, 0));
   }
@@ -170,6 +183,7 @@ public final class PromisesTest {
     due(2, y.house(2));
     due(20, y.set(0, 0, 5, 9));
     noFunction((z, one) -> z.set(one, 5, 4, 10000));
+    noFunction((z, one) -> z.set(one, 4, 5, 1));
     noSpan((z, from, to) -> z.set(1, from, to, 10000));
     noValue((z, value) -> z.set(1, 0, 1, value));
     losesWalkOver("0", PromisesTest::full, z -> z.set(0, 150, 200, 1));
@@ -197,6 +211,7 @@ public final class PromisesTest {
     due(3, x.house(2));
     due(-9, full().add(0, 1, 2, 3));
     noFunction((y, one) -> y.add(one, 5, 4, 10000));
+    noFunction((y, one) -> y.add(one, 4, 5, 1));
     noSpan((y, from, to) -> y.add(1, from, to, 10000));
     noValue((y, by) -> y.add(1, 0, 1, by));
     losesWalkOver("1", PromisesTest::some, y -> y.add(1, 0, 200, 9999));
@@ -218,6 +233,7 @@ public final class PromisesTest {
     due(1, y.house(2));
     due(1, y.raise(0, 0, 200, 1));
     noFunction((z, one) -> z.raise(one, 5, 4, 10000));
+    noFunction((z, one) -> z.raise(one, 4, 5, 1));
     noSpan((z, from, to) -> z.raise(1, from, to, 10000));
     noValue((z, value) -> z.raise(1, 0, 1, value));
     losesWalkOver("1", PromisesTest::some, z -> z.raise(1, 0, 200, 0));
@@ -237,12 +253,14 @@ public final class PromisesTest {
     due(1, y.house(2));
     due(1, y.lower(0, 0, 200, 0));
     noFunction((z, one) -> z.lower(one, 5, 4, 10000));
+    noFunction((z, one) -> z.lower(one, 4, 5, 1));
     noSpan((z, from, to) -> z.lower(1, from, to, 10000));
     noValue((z, value) -> z.lower(1, 0, 1, value));
     losesWalkOver("1", PromisesTest::some, z -> z.lower(1, 0, 200, 100));
   }
 
   private static void promise7() {
+    due(-1, tipped().negate(0));
     Stepfunctions x = some();
     due(0, x.negate(0));
     due("{0=0, 10=-5, 20=3, 30=0}", x.text(0));
@@ -258,6 +276,7 @@ public final class PromisesTest {
   }
 
   private static void promise8() {
+    due(6, tipped().scale(0, 2));
     Stepfunctions x = some();
     due(4, x.scale(0, -9));
     due("{0=0, 10=-45, 20=27, 30=0}", x.text(0));
@@ -274,6 +293,7 @@ public final class PromisesTest {
     due(-9, x.scale(0, 9));
     due(3, x.house(2));
     noFunction((y, one) -> y.scale(one, 10));
+    noFunction((y, one) -> y.scale(one, 1));
     for (int by : new int[] {-10, 10, MIN, MAX}) {
       refusedBy(ARGUMENT, some(), y -> y.scale(1, by));
     }
@@ -282,6 +302,9 @@ public final class PromisesTest {
   }
 
   private static void promise9() {
+    Stepfunctions tip = tipped();
+    due(0, tip.copy(0, 1));
+    due(tip.text(0), tip.text(1));
     Stepfunctions x = some();
     due(0, x.copy(0, 3));
     due("{0=0, 10=5, 20=-3, 30=0}", x.text(3));
@@ -364,6 +387,7 @@ public final class PromisesTest {
     due("{0=0, 5=1", y.text(0).substring(0, 9));
     due(2, y.house(2));
     noFunction((z, one) -> z.shift(one, 201, 10000));
+    noFunction((z, one) -> z.shift(one, 1, 1));
     noValue((z, value) -> z.shift(1, 0, value));
     for (int by : new int[] {-201, 201, MIN, MAX}) {
       refusedBy(ARGUMENT, some(), z -> z.shift(1, by, 0));
@@ -373,6 +397,9 @@ public final class PromisesTest {
   }
 
   private static void promise13() {
+    Stepfunctions tip = tipped();
+    due(6, tip.mirror(0));
+    due("{0=6, 1=5, 2=4, 3=3, 198=2, 199=1}", tip.text(0));
     Stepfunctions x = some();
     due(0, x.mirror(0));
     due("{0=0, 170=-3, 180=5, 190=0}", x.text(0));
@@ -386,6 +413,10 @@ public final class PromisesTest {
   }
 
   private static void promise14() {
+    Stepfunctions tip = tipped();
+    due(2, tip.dropStep(0, 1));
+    due(6, tip.dropStep(0, 199));
+    due("{0=1, 2=3, 197=4, 198=5}", tip.text(0));
     Stepfunctions x = some();
     due(-9, x.dropStep(0, 0));
     due(-9, x.dropStep(0, 11));
@@ -407,6 +438,10 @@ public final class PromisesTest {
   }
 
   private static void promise15() {
+    Stepfunctions tip = new Stepfunctions();
+    tip.set(0, 0, 1, 1);
+    due(1, tip.dropLast(0));
+    due("{0=1}", tip.text(0));
     Stepfunctions x = some();
     due(30, x.dropLast(0));
     due("{0=0, 10=5, 20=-3}", x.text(0));
@@ -423,6 +458,9 @@ public final class PromisesTest {
   }
 
   private static void promise16() {
+    Stepfunctions tip = tipped();
+    due(1, tip.dropFirst(0));
+    due("{0=2, 2=3, 197=4, 198=5, 199=6}", tip.text(0));
     Stepfunctions x = some();
     due(10, x.dropFirst(0));
     due("{0=5, 20=-3, 30=0}", x.text(0));
@@ -440,6 +478,10 @@ public final class PromisesTest {
   }
 
   private static void promise17() {
+    Stepfunctions tip = tipped();
+    due(6, tip.lift(0, 199, 5));
+    due(1, tip.lift(0, 0, 2));
+    due("{0=2, 2=3, 197=4, 198=5}", tip.text(0));
     Stepfunctions x = some();
     due(5, x.lift(0, 19, 6));
     due("{0=0, 10=6, 20=-3, 30=0}", x.text(0));
@@ -455,12 +497,17 @@ public final class PromisesTest {
     due("{0=-9999}", x.text(1));
     due(0, x.house(2));
     noFunction((y, one) -> y.lift(one, 200, 10000));
+    noFunction((y, one) -> y.lift(one, 0, 1));
     noPlace((y, place) -> y.lift(1, place, 10000));
     noValue((y, value) -> y.lift(1, 0, value));
     losesWalkOver("1", PromisesTest::some, y -> y.lift(1, 0, 7));
   }
 
   private static void promise18() {
+    Stepfunctions tip = tipped();
+    due(true, tip.restep(0, 199, 6, 7));
+    due(true, tip.restep(0, 1, 2, 3));
+    due("{0=1, 1=3, 197=4, 198=5, 199=7}", tip.text(0));
     Stepfunctions x = some();
     due(false, x.restep(0, 11, 5, 1));
     due(false, x.restep(0, 10, 4, 1));
@@ -475,6 +522,7 @@ public final class PromisesTest {
     due("{0=9999, 10=-3, 30=-9999}", x.text(0));
     due(0, x.house(2));
     noFunction((y, one) -> y.restep(one, 200, 0, 10000));
+    noFunction((y, one) -> y.restep(one, 0, 0, 1));
     noPlace((y, place) -> y.restep(1, place, 0, 10000));
     noValue((y, then) -> y.restep(1, 0, 7, then));
     noValue((y, then) -> y.restep(1, 3, 7, then));
@@ -483,6 +531,10 @@ public final class PromisesTest {
   }
 
   private static void promise19() {
+    Stepfunctions tip = tipped();
+    due(true, tip.unstep(0, 199, 6));
+    due(true, tip.unstep(0, 1, 2));
+    due("{0=1, 2=3, 197=4, 198=5}", tip.text(0));
     Stepfunctions x = some();
     due(false, x.unstep(0, 0, 0));
     due(false, x.unstep(0, 11, 5));
@@ -502,6 +554,11 @@ public final class PromisesTest {
   }
 
   private static void promise20() {
+    Stepfunctions tip = tipped();
+    due(2, tip.glue(0, 197, 199));
+    due(1, tip.glue(0, 0, 1));
+    due("{0=1, 2=3, 197=4}", tip.text(0));
+    due(1, tipped().glue(0, 198, 199));
     Stepfunctions x = some();
     due(0, x.glue(0, 10, 19));
     due(0, x.glue(0, 10, 10));
@@ -526,6 +583,10 @@ public final class PromisesTest {
   }
 
   private static void promise21() {
+    Stepfunctions tip = tipped();
+    tip.set(1, 1, 199, 1);
+    due(3, tip.keepSteps(0, 1));
+    due("{0=1, 1=2, 199=6}", tip.text(0));
     Stepfunctions x = some();
     due(2, x.keepSteps(0, 2));
     due("{0=0, 20=-3}", x.text(0));
@@ -545,6 +606,10 @@ public final class PromisesTest {
   }
 
   private static void promise22() {
+    Stepfunctions tip = tipped();
+    tip.set(1, 1, 199, 1);
+    due(4, tip.loseSteps(0, 1));
+    due("{0=1, 2=3, 197=4, 198=5}", tip.text(0));
     Stepfunctions x = some();
     due(3, x.loseSteps(0, 2));
     due("{0=0, 10=5, 30=0}", x.text(0));
@@ -586,6 +651,9 @@ public final class PromisesTest {
   }
 
   private static void promise23() {
+    Stepfunctions tip = tipped();
+    tip.sum(0, 0, 1);
+    due("{0=2, 1=4, 2=6, 197=8, 198=10, 199=12}", tip.text(1));
     Stepfunctions x = some();
     due(5, x.sum(0, 2, 3));
     due("{0=-2, 10=3, 20=1, 30=4, 100=0}", x.text(3));
@@ -609,6 +677,9 @@ public final class PromisesTest {
   }
 
   private static void promise24() {
+    Stepfunctions tip = tipped();
+    tip.less(0, 0, 1);
+    due("{0=0}", tip.text(1));
     Stepfunctions x = some();
     due(5, x.less(0, 2, 3));
     due("{0=2, 10=7, 20=-7, 30=-4, 100=0}", x.text(3));
@@ -629,6 +700,9 @@ public final class PromisesTest {
   }
 
   private static void promise25() {
+    Stepfunctions tip = tipped();
+    tip.meet(0, 0, 1);
+    due("{0=1, 1=2, 2=3, 197=4, 198=5, 199=6}", tip.text(1));
     Stepfunctions x = some();
     due(3, x.meet(0, 2, 3));
     due("{0=-2, 20=-3, 30=0}", x.text(3));
@@ -650,6 +724,9 @@ public final class PromisesTest {
   }
 
   private static void promise26() {
+    Stepfunctions tip = tipped();
+    tip.join(0, 0, 1);
+    due("{0=1, 1=2, 2=3, 197=4, 198=5, 199=6}", tip.text(1));
     Stepfunctions x = some();
     due(4, x.join(0, 2, 3));
     due("{0=0, 10=5, 20=4, 100=0}", x.text(3));
@@ -662,6 +739,13 @@ public final class PromisesTest {
   }
 
   private static void promise27() {
+    Stepfunctions ends = tipped();
+    ends.set(1, 1, 199, 9);
+    due(3, ends.above(0, 1, 2));
+    due("{0=1, 1=0, 199=1}", ends.text(2));
+    Stepfunctions tip = tipped();
+    tip.above(0, 0, 1);
+    due("{0=0}", tip.text(1));
     Stepfunctions x = some();
     due(2, x.above(0, 2, 3));
     due("{0=1, 20=0}", x.text(3));
@@ -685,6 +769,10 @@ public final class PromisesTest {
   }
 
   private static void promise28() {
+    Stepfunctions tip = tipped();
+    tip.set(1, 1, 199, 9);
+    tip.choose(1, 0, 1, 2);
+    due("{0=1, 1=9, 199=6}", tip.text(2));
     Stepfunctions x = some();
     due(4, x.choose(0, 1, 2, 3));
     due("{0=7, 20=-3, 30=0, 100=8}", x.text(3));
@@ -729,6 +817,8 @@ public final class PromisesTest {
   }
 
   private static void promise31() {
+    due(199, tipped().step(0, 0, true));
+    due(1, tipped().step(0, 1, false));
     Stepfunctions x = some();
     due(0, x.step(0, 0, false));
     due(10, x.step(0, 1, false));
@@ -747,6 +837,9 @@ public final class PromisesTest {
   }
 
   private static void promise32() {
+    due(199, tipped().near(0, 199, 2));
+    due(199, tipped().near(0, 198, 3));
+    due(199, tipped().near(0, MAX, 1));
     Stepfunctions x = some();
     int[][] rows = {
       {10, 0, 10, 10, 20}, {15, 10, 10, 20, 20}, {0, -1, 0, 0, 10}, {1, 0, 0, 10, 10},
@@ -759,6 +852,7 @@ public final class PromisesTest {
       }
     }
     noFunction((y, one) -> y.near(one, 0, 4));
+    noFunction((y, one) -> y.near(one, 0, 3));
     for (int what : new int[] {-1, 4, MIN, MAX}) {
       refusedBy(ARGUMENT, some(), y -> y.near(1, 0, what));
     }
@@ -777,6 +871,7 @@ public final class PromisesTest {
     x.flat(0, -9999);
     due("-9999", x.nearValue(0, MAX, 0));
     noFunction((y, one) -> y.nearValue(one, 0, 4));
+    noFunction((y, one) -> y.nearValue(one, 0, 3));
     for (int what : new int[] {-1, 4, MIN, MAX}) {
       refusedBy(ARGUMENT, some(), y -> y.nearValue(1, 0, what));
     }
@@ -795,6 +890,8 @@ public final class PromisesTest {
   }
 
   private static void promise35() {
+    due(2, tipped().stepOr(0, 1, 77));
+    due(6, tipped().stepOr(0, 199, 77));
     Stepfunctions x = some();
     due(0, x.stepOr(0, 0, 77));
     due(-3, x.stepOr(0, 20, 77));
@@ -806,6 +903,8 @@ public final class PromisesTest {
   }
 
   private static void promise36() {
+    due(true, tipped().has(0, 6));
+    due(true, tipped().has(0, 1));
     Stepfunctions x = some();
     due(true, x.has(0, 5));
     due(true, x.has(0, 0));
@@ -859,6 +958,8 @@ public final class PromisesTest {
   }
 
   private static void promise40() {
+    due(4, tipped().between(0, 0, 199, false, false));
+    due(1, tipped().between(0, 198, 200, false, false));
     Stepfunctions x = some();
     due(1, x.between(0, 0, 20, false, false));
     due(2, x.between(0, 0, 20, true, false));
@@ -928,6 +1029,11 @@ public final class PromisesTest {
   }
 
   private static void promise44() {
+    Stepfunctions tip = tipped();
+    tip.copy(0, 1);
+    due(true, tip.areSame(0, 1));
+    tip.lift(1, 0, 7);
+    due(false, tip.areSame(0, 1));
     Stepfunctions x = some();
     due(false, x.areSame(0, 3));
     due(true, x.areSame(2, 2));
@@ -967,6 +1073,10 @@ public final class PromisesTest {
   }
 
   private static void promise47() {
+    Stepfunctions tip = tipped();
+    tip.copy(0, 1);
+    tip.lift(1, 0, 0);
+    due(false, tip.isBelow(0, 1));
     Stepfunctions x = some();
     due(true, x.isBelow(0, 1));
     due(false, x.isBelow(1, 0));
@@ -982,6 +1092,7 @@ public final class PromisesTest {
   }
 
   private static void promise48() {
+    due(1 + (1 ^ 2) + (2 ^ 3) + (197 ^ 4) + (198 ^ 5) + (199 ^ 6), tipped().code(0));
     Stepfunctions x = some();
     due((10 ^ 5) + (20 ^ -3) + 30, x.code(0));
     due(7 + (50 ^ 8), x.code(1));
@@ -1129,6 +1240,7 @@ public final class PromisesTest {
   }
 
   private static void promise56() {
+    due(digestOf(tipped()), tipped().digest());
     due(digestOf(new Stepfunctions()), new Stepfunctions().digest());
     Stepfunctions x = crowded();
     x.flat(2, -9);
