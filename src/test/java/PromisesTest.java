@@ -1240,8 +1240,8 @@ public final class PromisesTest {
   }
 
   private static void promise56() {
-    due(digestOf(tipped()), tipped().digest());
-    due(digestOf(new Stepfunctions()), new Stepfunctions().digest());
+    due(Given.digestOf(tipped()), tipped().digest());
+    due(Given.digestOf(new Stepfunctions()), new Stepfunctions().digest());
     Stepfunctions x = crowded();
     x.flat(2, -9);
     x.knock();
@@ -1249,40 +1249,9 @@ public final class PromisesTest {
     x.walk(0);
     x.goOn();
     String before = state(x);
-    due(digestOf(x), x.digest());
+    due(Given.digestOf(x), x.digest());
     due(before, state(x));
-    due(digestOf(some()), some().digest());
-  }
-
-  /** The checksum as the document tells it, out of the face alone. */
-  private static long digestOf(Stepfunctions x) {
-    long d = 7844;
-    for (int what = 0; what <= 4; what++) {
-      d = d * 31 + x.house(what);
-    }
-    for (int one = 0; one < 4; one++) {
-      d = d * 31 + x.steps(one);
-      for (int k = 0; k < x.steps(one); k++) {
-        d = d * 31 + x.step(one, k, false);
-        d = d * 31 + x.at(one, x.step(one, k, false));
-      }
-      d = d * 31 + x.code(one);
-      d = d * 31 + x.text(one).length();
-      d = d * 31 + x.area(one, 0, 200);
-      d = d * 31 + x.area(one, 50, 150);
-      for (int what = 0; what <= 3; what++) {
-        d = d * 31 + x.near(one, 100, what);
-      }
-      d = d * 31 + x.where(one, 0);
-    }
-    for (int one = 0; one < 4; one++) {
-      for (int other = 0; other < 4; other++) {
-        d = d * 31 + (x.areSame(one, other) ? 1 : 0);
-        d = d * 31 + x.differ(one, other);
-        d = d * 31 + (x.isBelow(one, other) ? 1 : 0);
-      }
-    }
-    return d * 31 + (x.isSound() ? 1 : 0);
+    due(Given.digestOf(some()), some().digest());
   }
 
   public static void main(String[] args) throws ReflectiveOperationException {

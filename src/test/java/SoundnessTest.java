@@ -10,42 +10,10 @@ public final class SoundnessTest {
 
   private static void due(boolean want, Stepfunctions x, String what) {
     boolean got = x.isSound();
-    long last = x.digest() - digestWithout(x);
-    if (got != want || last != (want ? 1 : 0)) {
+    if (got != want || x.digest() != Given.digestOf(x)) {
       wrong++;
       System.out.println(what + ": isSound() answered " + got + ", due is " + want);
     }
-  }
-
-  /** The checksum of that state, but for the last number, which tells of isSound(). */
-  private static long digestWithout(Stepfunctions x) {
-    long d = 7844;
-    for (int what = 0; what <= 4; what++) {
-      d = d * 31 + x.house(what);
-    }
-    for (int one = 0; one < 4; one++) {
-      d = d * 31 + x.steps(one);
-      for (int k = 0; k < x.steps(one); k++) {
-        d = d * 31 + x.step(one, k, false);
-        d = d * 31 + x.at(one, x.step(one, k, false));
-      }
-      d = d * 31 + x.code(one);
-      d = d * 31 + x.text(one).length();
-      d = d * 31 + x.area(one, 0, 200);
-      d = d * 31 + x.area(one, 50, 150);
-      for (int what = 0; what <= 3; what++) {
-        d = d * 31 + x.near(one, 100, what);
-      }
-      d = d * 31 + x.where(one, 0);
-    }
-    for (int one = 0; one < 4; one++) {
-      for (int other = 0; other < 4; other++) {
-        d = d * 31 + (x.areSame(one, other) ? 1 : 0);
-        d = d * 31 + x.differ(one, other);
-        d = d * 31 + (x.isBelow(one, other) ? 1 : 0);
-      }
-    }
-    return d * 31;
   }
 
   private static void spoil(Stepfunctions x, int one, int place, int value)

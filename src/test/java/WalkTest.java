@@ -13,7 +13,7 @@ import java.util.regex.Pattern;
  * The document's sentences of the WALK: which calls lose it, whether they change something, change
  * nothing, or are REFUSED, and which leave it. WrongInputsTest shows that no throw loses it.
  */
-public final class WalkTest {
+public final class WalkTest extends Given {
   private static int wrong = 0;
 
   /** Which ways of each call have been tested: "changes", "idle", "refused" or "asks". */
@@ -32,37 +32,11 @@ public final class WalkTest {
 
   // ---- the functions that the calls meet
 
-  private static final String STEPPED = "{0=0, 10=5, 20=-3, 30=0}";
-
   /** Twenty steps at 0, 10 and so on to 190, and -9999, 9999, -9999 and so on there. */
   private static final String FULL = steps(0, 10, 20, -9999, 9999);
 
   /** The steps are at the places that FULL has none at, but for 0. */
-  private static final String FULL_ELSEWHERE = steps(-5, 10, 20, 1, 0).replace("-5=", "0=");
-
-  private static String steps(int from, int gap, int count, int first, int second) {
-    StringBuilder all = new StringBuilder("{");
-    for (int k = 0; k < count; k++) {
-      all.append(k == 0 ? "" : ", ").append(from + gap * k).append('=').append(k % 2 == 0 ? first : second);
-    }
-    return all.append('}').toString();
-  }
-
-  private static Stepfunctions made(String... texts) {
-    Stepfunctions x = new Stepfunctions();
-    for (int one = 0; one < texts.length; one++) {
-      for (String step : texts[one].substring(1, texts[one].length() - 1).split(", ")) {
-        String[] parts = step.split("=");
-        x.set(one, Integer.parseInt(parts[0]), 200, Integer.parseInt(parts[1]));
-      }
-      due(texts[one], x.text(one), "the start of a test");
-    }
-    return x;
-  }
-
-  private static String texts(Stepfunctions x) {
-    return x.text(0) + x.text(1) + x.text(2) + x.text(3);
-  }
+  private static final String FULL_ELSEWHERE = behind(1, steps(5, 10, 19, 0, 1));
 
   // ---- one call, with a walk over each function at each of its stages
 
@@ -70,7 +44,7 @@ public final class WalkTest {
     TESTED.computeIfAbsent(call, k -> new TreeSet<>()).add(way);
     for (int one = 0; one < 4; one++) {
       int all = made(texts).steps(one);
-      for (int told = 0; told <= all + 1; told += told < 2 ? 1 : all) {
+      for (int told : new int[] {0, 1, all, all + 1}) {
         Stepfunctions x = made(texts);
         Stepfunctions y = made(texts);
         String what = call + " (" + way + "), a walk over " + one + " that told " + told;
