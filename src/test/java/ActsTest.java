@@ -376,6 +376,17 @@ public final class ActsTest extends Sentences {
       due(2, x.glue(2, 0, 20));
       due(0, x.house(2));
     });
+    sentence(21, "All STEPS of a FUNCTION that are no STEPS of another one GO.", () -> {
+      Stepfunctions x = made(TIPPED, "{0=7}", "{0=0, 1=1, 199=2}", TIPPED);
+      due(3, x.keepSteps(0, 2));
+      due("{0=1, 1=2, 199=6}", x.text(0));
+      due(1, x.keepSteps(0, 1));
+      due("{0=1}", x.text(0));
+      x.set(2, 100, 200, 1);
+      due(2, x.keepSteps(3, 2));
+      due("{0=1, 1=2}", x.text(3));
+      due("{0=7}{0=0, 1=1}", x.text(1) + x.text(2));
+    });
     sentence(21, "Returns how many STEPS it has then.", () -> {
       Stepfunctions x = made(rungs(20), steps(0, 10, 20, 7, 8), "{0=1, 10=2, 20=1}", "{0=0, 20=9, 25=0}");
       due(20, x.keepSteps(0, 1));
