@@ -382,10 +382,11 @@ public final class Stepfunctions {
   public int side(int one, int place, boolean isBelow, boolean isWith)
       throws IndexOutOfBoundsException {
     demandFunction(one);
+    // The outer end is ahead of all places, or behind them: no step there can count.
     if (isBelow) {
-      return functions[one].countBetween(Integer.MIN_VALUE, place, isWith, isWith);
+      return functions[one].countBetween(-1, place, false, isWith);
     }
-    return functions[one].countBetween(place, Integer.MAX_VALUE, isWith, isWith);
+    return functions[one].countBetween(place, PLACES, isWith, false);
   }
 
   public int edge(int one, int from, int to, boolean isLast) throws IndexOutOfBoundsException {

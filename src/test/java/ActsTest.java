@@ -18,6 +18,15 @@ public final class ActsTest extends Sentences {
       due("{0=0}", new Stepfunctions().text(0));
       due(0, new Stepfunctions().house(2));
     });
+    sentence(2, "A FUNCTION has one VALUE at each PLACE.", () -> {
+      for (int one = 0; one < 4; one++) {
+        Stepfunctions x = made(TIPPED, TIPPED, TIPPED, TIPPED);
+        due(6, x.flat(one, 7));
+        for (int other = 0; other < 4; other++) {
+          due(other == one ? "{0=7}" : TIPPED, x.text(other));
+        }
+      }
+    });
     sentence(2, "Returns how many STEPS it had.", () -> {
       Stepfunctions x = made(rungs(20), "{0=0}");
       due(20, x.flat(0, 9999));
@@ -25,6 +34,15 @@ public final class ActsTest extends Sentences {
       due(1, x.flat(0, -9999));
       due("{0=-9999}", x.text(0));
       due(1, x.flat(1, 0));
+    });
+    sentence(3, "A FUNCTION has a VALUE over a SPAN.", () -> {
+      Stepfunctions x = made("{0=0}", STEPPED, STEPPED, STEPPED);
+      due(5, x.set(1, 15, 25, 9));
+      due("{0=0, 10=5, 15=9, 25=-3, 30=0}", x.text(1));
+      due(2, x.set(2, 0, 30, 1));
+      due("{0=1, 30=0}", x.text(2));
+      due(5, x.set(3, 40, 200, -9999));
+      due("{0=0, 10=5, 20=-3, 30=0, 40=-9999}", x.text(3));
     });
     sentence(3, "Returns how many STEPS it has then; -9.", () -> {
       Stepfunctions x = made("{0=1, 10=2, 20=1}", rungs(20));
@@ -39,10 +57,17 @@ public final class ActsTest extends Sentences {
       due(20, x.set(1, 199, 200, 1));
       refused(x, y -> y.set(1, 198, 199, 2));
     });
-    sentence(3, "- `to`: where it ends (not in it)", () -> {
+    sentence(3, "- `from`: where the SPAN begins - `to`: where it ends (not in it)", () -> {
       Stepfunctions x = new Stepfunctions();
       due(3, x.set(0, 10, 20, 5));
       due("0550", "" + x.at(0, 9) + x.at(0, 10) + x.at(0, 19) + x.at(0, 20));
+    });
+    sentence(4, "The VALUES of a FUNCTION over a SPAN become so much more.", () -> {
+      Stepfunctions x = made("{0=0}", STEPPED, STEPPED);
+      due(6, x.add(1, 15, 35, 10));
+      due("{0=0, 10=5, 15=15, 20=7, 30=10, 35=0}", x.text(1));
+      due(4, x.add(2, 0, 200, -9));
+      due("{0=-9, 10=-4, 20=-12, 30=-9}", x.text(2));
     });
     sentence(4, "Returns how many STEPS it has then; -9.", () -> {
       Stepfunctions x = made("{0=0, 10=5, 20=0}", rungs(20), "{0=-9998, 199=9998}");
@@ -59,7 +84,7 @@ public final class ActsTest extends Sentences {
       due(2, x.add(2, 0, 199, -1));
       due("{0=-9999, 199=9999}", x.text(2));
     });
-    sentence(4, "- `to`: where it ends (not in it)", () -> {
+    sentence(4, "- `from`: where the SPAN begins - `to`: where it ends (not in it)", () -> {
       Stepfunctions x = new Stepfunctions();
       due(3, x.add(0, 10, 20, 5));
       due("0550", "" + x.at(0, 9) + x.at(0, 10) + x.at(0, 19) + x.at(0, 20));
@@ -83,7 +108,7 @@ public final class ActsTest extends Sentences {
       due("{0=-7, 199=-8}", x.text(1));
       due(1, x.raise(1, 199, 200, -7));
     });
-    sentence(5, "- `to`: where it ends (not in it)", () -> {
+    sentence(5, "- `from`: where the SPAN begins - `to`: where it ends (not in it)", () -> {
       Stepfunctions x = new Stepfunctions();
       due(3, x.raise(0, 10, 20, 5));
       due("0550", "" + x.at(0, 9) + x.at(0, 10) + x.at(0, 19) + x.at(0, 20));
@@ -107,7 +132,7 @@ public final class ActsTest extends Sentences {
       due("{0=7, 199=8}", x.text(1));
       due(1, x.lower(1, 199, 200, 7));
     });
-    sentence(6, "- `to`: where it ends (not in it)", () -> {
+    sentence(6, "- `from`: where the SPAN begins - `to`: where it ends (not in it)", () -> {
       Stepfunctions x = made("{0=9}");
       due(3, x.lower(0, 10, 20, 5));
       due("9559", "" + x.at(0, 9) + x.at(0, 10) + x.at(0, 19) + x.at(0, 20));
@@ -115,6 +140,11 @@ public final class ActsTest extends Sentences {
   }
 
   private static void promises7To13() {
+    sentence(7, "Each VALUE of a FUNCTION becomes its opposite (0 less it).", () -> {
+      Stepfunctions x = made("{0=0}", STEPPED);
+      x.negate(1);
+      due("{0=0, 10=-5, 20=3, 30=0}", x.text(1));
+    });
     sentence(7, "Returns its VALUE at the PLACE 0 then.", () -> {
       Stepfunctions x = made("{0=9, 199=-9999}", "{0=0, 1=9999}", steps(0, 10, 20, 9999, -9999));
       due(-9, x.negate(0));
@@ -125,6 +155,13 @@ public final class ActsTest extends Sentences {
       due(9999, x.negate(2));
       due(20, x.steps(2));
       due(0, x.house(2));
+    });
+    sentence(8, "Each VALUE of a FUNCTION becomes so many times as much.", () -> {
+      for (int by = -9; by <= 9; by++) {
+        Stepfunctions x = made("{0=0}", "{0=1, 10=-2, 199=1111}");
+        due(by == 0 ? 1 : 3, x.scale(1, by));
+        due(by == 0 ? "{0=0}" : "{0=" + by + ", 10=" + -2 * by + ", 199=" + 1111 * by + "}", x.text(1));
+      }
     });
     sentence(8, "Returns how many STEPS it has then; -9.", () -> {
       Stepfunctions x = made(steps(0, 10, 20, 1111, -1111), steps(0, 10, 20, 9999, -9999), "{0=0, 199=5000}");
@@ -137,6 +174,13 @@ public final class ActsTest extends Sentences {
       due(1, x.scale(1, 9));
       refused(x, y -> y.scale(2, 2));
       due(2, x.scale(2, 1));
+    });
+    sentence(9, "A FUNCTION becomes as another one.", () -> {
+      Stepfunctions x = made(TIPPED, STEPPED, "{0=7}");
+      due(0, x.copy(1, 2));
+      due(TIPPED + STEPPED + STEPPED + "{0=0}", texts(x));
+      due(0, x.copy(3, 0));
+      due("{0=0}" + STEPPED + STEPPED + "{0=0}", texts(x));
     });
     sentence(9, "Returns 1 if both were the same already, otherwise 0.", () -> {
       Stepfunctions x = made(rungs(20), TIPPED, "{0=0, 199=1}");
@@ -156,6 +200,23 @@ public final class ActsTest extends Sentences {
       due(1, x.copy(0, 0));
       due(TIPPED, x.text(0));
     });
+    sentence(10, "Two FUNCTIONS change what they are (a WALK over one of both is LOST).", () -> {
+      for (int[] row : new int[][] {{0, 1, 0}, {0, 1, 1}, {1, 0, 0}, {1, 0, 1}, {2, 2, 2}}) {
+        Stepfunctions x = made(TIPPED, STEPPED, "{0=7}");
+        x.walk(row[2]);
+        x.goOn();
+        x.swap(row[0], row[1]);
+        due((row[0] == 2 ? TIPPED + STEPPED : STEPPED + TIPPED) + "{0=7}{0=0}", texts(x));
+        due(0, x.house(4));
+        refused(x, y -> y.goOn());
+      }
+      Stepfunctions x = made(TIPPED, STEPPED, "{0=7}");
+      x.walk(2);
+      x.swap(0, 1);
+      x.swap(3, 3);
+      due(1, x.house(4));
+      due(0, x.goOn());
+    });
     sentence(10, "Returns how many STEPS the first one has then.", () -> {
       Stepfunctions x = made(rungs(20), "{0=5}");
       due(1, x.swap(0, 1));
@@ -171,6 +232,13 @@ public final class ActsTest extends Sentences {
       due(6, x.swap(0, 0));
       due(TIPPED, x.text(0));
     });
+    sentence(11, "A FUNCTION has over a SPAN the VALUES that another one has there.", () -> {
+      Stepfunctions x = made("{0=7}", STEPPED);
+      due(5, x.splice(0, 15, 31, 1));
+      due("{0=7, 15=5, 20=-3, 30=0, 31=7}" + STEPPED, x.text(0) + x.text(1));
+      due(4, x.splice(0, 0, 200, 1));
+      due(STEPPED, x.text(0));
+    });
     sentence(11, "Returns how many STEPS it has then; -9.", () -> {
       Stepfunctions x = made(rungs(20), "{0=5}", TIPPED);
       refused(x, y -> y.splice(0, 195, 200, 1));
@@ -182,7 +250,7 @@ public final class ActsTest extends Sentences {
       due(3, x.splice(1, 70, 70, 2));
       due(TIPPED, x.text(2));
     });
-    sentence(11, "- `to`: where it ends (not in it)", () -> {
+    sentence(11, "- `from`: where the SPAN begins - `to`: where it ends (not in it)", () -> {
       Stepfunctions x = made("{0=0}", "{0=5}");
       due(3, x.splice(0, 10, 20, 1));
       due("0550", "" + x.at(0, 9) + x.at(0, 10) + x.at(0, 19) + x.at(0, 20));
@@ -243,6 +311,13 @@ public final class ActsTest extends Sentences {
   }
 
   private static void promises14To19() {
+    sentence(14, "A STEP GOES.", () -> {
+      Stepfunctions x = made("{0=0}", STEPPED);
+      due(-3, x.dropStep(1, 20));
+      due("{0=0, 10=5, 30=0}", x.text(1));
+      due(5, x.dropStep(1, 10));
+      due("{0=0}", x.text(1));
+    });
     sentence(14, "Returns the VALUE that it had there; -9 if there is no STEP, or place is 0.", () -> {
       Stepfunctions x = made("{0=1, 1=-9, 199=3}");
       refused(x, y -> y.dropStep(0, 0));
@@ -255,6 +330,11 @@ public final class ActsTest extends Sentences {
       due("{0=1}", x.text(0));
       refused(x, y -> y.dropStep(0, 1));
     });
+    sentence(15, "The last STEP GOES.", () -> {
+      Stepfunctions x = made("{0=0}", STEPPED);
+      due(30, x.dropLast(1));
+      due("{0=0, 10=5, 20=-3}", x.text(1));
+    });
     sentence(15, "Returns its PLACE; -9 if there is one STEP alone.", () -> {
       Stepfunctions x = made("{0=1, 1=2, 199=3}", rungs(20));
       due(199, x.dropLast(0));
@@ -265,6 +345,13 @@ public final class ActsTest extends Sentences {
         due(place, x.dropLast(1));
       }
       refused(x, y -> y.dropLast(1));
+    });
+    sentence(16, "The STRETCH of the PLACE 0 gets the VALUE of the next one.", () -> {
+      Stepfunctions x = made("{0=0}", STEPPED, "{0=3, 199=-9}");
+      due(10, x.dropFirst(1));
+      due("{0=5, 20=-3, 30=0}", x.text(1));
+      due(199, x.dropFirst(2));
+      due("{0=-9}", x.text(2));
     });
     sentence(16, "Returns where the next one began; -9 if there is one STEP alone.", () -> {
       Stepfunctions x = made("{0=1, 1=2, 199=1}", rungs(20));
@@ -278,6 +365,15 @@ public final class ActsTest extends Sentences {
       }
       due("{0=1}", x.text(1));
       refused(x, y -> y.dropFirst(1));
+    });
+    sentence(17, "The STRETCH of a PLACE gets a VALUE.", () -> {
+      for (int place = 10; place < 20; place++) {
+        Stepfunctions x = made("{0=0}", STEPPED, STEPPED);
+        due(5, x.lift(1, place, 6));
+        due("{0=0, 10=6, 20=-3, 30=0}", x.text(1));
+        due(5, x.lift(2, place, -3));
+        due("{0=0, 10=-3, 30=0}", x.text(2));
+      }
     });
     sentence(17, "Returns the VALUE that it had.", () -> {
       Stepfunctions x = made("{0=1, 1=-9, 199=3}", rungs(20), "{0=1, 10=2, 20=1}");
@@ -294,6 +390,16 @@ public final class ActsTest extends Sentences {
       due(1, x.lift(2, 199, -9999));
       due("{0=-9999}", x.text(2));
       due(0, x.house(2));
+    });
+    sentence(18, "The STRETCH that begins at a PLACE gets another VALUE, if it has a told one.", () -> {
+      Stepfunctions x = made("{0=0}", STEPPED);
+      due(true, x.restep(1, 20, -3, 4));
+      due("{0=0, 10=5, 20=4, 30=0}", x.text(1));
+      due(false, x.restep(1, 20, -3, 6));
+      due(false, x.restep(1, 25, 4, 6));
+      due("{0=0, 10=5, 20=4, 30=0}", x.text(1));
+      due(true, x.restep(1, 20, 4, 5));
+      due("{0=0, 10=5, 30=0}", x.text(1));
     });
     sentence(18, "Returns whether there is a STEP at that PLACE, and it had that VALUE (otherwise nothing changes).", () -> {
       Stepfunctions x = made(TIPPED, "{0=1, 10=2, 20=1}", rungs(20));
@@ -319,6 +425,13 @@ public final class ActsTest extends Sentences {
       }
       due(true, x.restep(1, 0, -9, 8));
       due(TIPPED + "{0=8}", x.text(0) + x.text(1));
+    });
+    sentence(19, "A STEP GOES, if it has a told VALUE.", () -> {
+      Stepfunctions x = made("{0=0}", STEPPED);
+      due(false, x.unstep(1, 20, 3));
+      due(STEPPED, x.text(1));
+      due(true, x.unstep(1, 20, -3));
+      due("{0=0, 10=5, 30=0}", x.text(1));
     });
     sentence(19, "Returns whether it went (not that of the PLACE 0).", () -> {
       Stepfunctions x = made(TIPPED, "{0=1, 10=2, 20=1}");
@@ -429,6 +542,11 @@ public final class ActsTest extends Sentences {
   // ---- the promises of two functions
 
   private static void promises23And24() {
+    sentence(23, "A FUNCTION becomes the SUM of two.", () -> {
+      Stepfunctions x = made("{0=7}", STEPPED, "{0=2, 30=5, 40=3}");
+      due(5, x.sum(1, 2, 3));
+      due("{0=7}" + STEPPED + "{0=2, 30=5, 40=3}" + "{0=2, 10=7, 20=-1, 30=5, 40=3}", texts(x));
+    });
     sentence(23, "Returns how many STEPS that has then; -9.", () -> {
       Stepfunctions x = made(rungs(20), "{0=9999, 199=-9999}", "{0=-9999, 199=9999}", "{0=1, 199=0}");
       due(1, x.sum(1, 2, 2));
@@ -454,6 +572,11 @@ public final class ActsTest extends Sentences {
       due("{0=3, 1=4, 2=5, 197=6, 198=7, 199=10}", x.text(1));
       due(6, x.sum(1, 1, 1));
       due("{0=6, 1=8, 2=10, 197=12, 198=14, 199=20}", x.text(1));
+    });
+    sentence(24, "A FUNCTION becomes the REST of two.", () -> {
+      Stepfunctions x = made("{0=7}", STEPPED, "{0=2, 30=5, 40=3}");
+      due(4, x.less(1, 2, 3));
+      due("{0=7}" + STEPPED + "{0=2, 30=5, 40=3}" + "{0=-2, 10=3, 20=-5, 40=-3}", texts(x));
     });
     sentence(24, "Returns how many STEPS that has then; -9.", () -> {
       Stepfunctions x = made(rungs(20), "{0=9999, 199=-9999}", "{0=-9999, 199=9999}", "{0=0, 199=1}");
@@ -483,6 +606,11 @@ public final class ActsTest extends Sentences {
   }
 
   private static void promises25And26() {
+    sentence(25, "A FUNCTION becomes what MEETS of two.", () -> {
+      Stepfunctions x = made("{0=7}", STEPPED, "{0=2, 30=5, 40=3}");
+      due(4, x.meet(1, 2, 3));
+      due("{0=7}" + STEPPED + "{0=2, 30=5, 40=3}" + "{0=0, 10=2, 20=-3, 30=0}", texts(x));
+    });
     sentence(25, "Returns how many STEPS that has then; -9.", () -> {
       String other = behind(5, steps(5, 10, 19, 1, 5));
       Stepfunctions x = made(steps(0, 10, 20, 0, 3), other, "{0=9999}", "{0=-9999}");
@@ -505,6 +633,11 @@ public final class ActsTest extends Sentences {
       due(3, x.meet(0, 1, 1));
       due("{0=1, 10=2, 199=0}", x.text(1));
       due(3, x.meet(1, 1, 1));
+    });
+    sentence(26, "A FUNCTION becomes the JOINT of two.", () -> {
+      Stepfunctions x = made("{0=7}", STEPPED, "{0=2, 30=5, 40=3}");
+      due(5, x.join(1, 2, 3));
+      due("{0=7}" + STEPPED + "{0=2, 30=5, 40=3}" + "{0=2, 10=5, 20=2, 30=5, 40=3}", texts(x));
     });
     sentence(26, "Returns how many STEPS that has then; -9.", () -> {
       String other = behind(-5, steps(5, 10, 19, -1, -5));

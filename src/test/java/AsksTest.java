@@ -43,6 +43,14 @@ public final class AsksTest extends Sentences {
         due(NONE, x.step(0, k, true));
       }
     });
+    sentence(31, "- `isBack`: whether from the last one (0) back", () -> {
+      Stepfunctions x = made(STEPPED);
+      int[] places = {0, 10, 20, 30};
+      for (int k = 0; k < 4; k++) {
+        due(places[k], x.step(0, k, false));
+        due(places[3 - k], x.step(0, k, true));
+      }
+    });
     sentence(32, "0 the greatest STEP below it, 1 the greatest one up to it, 2 the least one from it on, 3 the least one above it", () -> {
       nearIs("{0=0}", 0, NONE, 0, 0, NONE);
       nearIs("{0=0}", 1, 0, 0, NONE, NONE);
@@ -76,6 +84,13 @@ public final class AsksTest extends Sentences {
       due("9999", x.nearValue(0, 10, 3));
       due("9999", x.nearValue(0, 199, 2));
       due("", x.nearValue(0, 199, 3));
+    });
+    sentence(33, "- `what`: as for near()", () -> {
+      Stepfunctions x = made(STEPPED);
+      due("0", x.nearValue(0, 10, 0));
+      due("5", x.nearValue(0, 10, 1));
+      due("5", x.nearValue(0, 10, 2));
+      due("-3", x.nearValue(0, 10, 3));
     });
     sentence(33, "- `place`: any number", () -> {
       Stepfunctions x = made(TIPPED);
@@ -163,9 +178,12 @@ public final class AsksTest extends Sentences {
       due(5 - 3, x.area(1, 19, 21));
       due(50 - 30, x.area(1, 0, 200));
     });
-    sentence(38, "- `to`: where it ends (not in it)", () -> {
+    sentence(38, "- `from`: where a SPAN begins - `to`: where it ends (not in it)", () -> {
       due(0, made(STEPPED).area(0, 0, 10));
       due(5, made(STEPPED).area(0, 0, 11));
+      due(5, made(STEPPED).area(0, 19, 20));
+      due(50, made(STEPPED).area(0, 10, 20));
+      due(45, made(STEPPED).area(0, 11, 20));
     });
     sentence(39, "Returns that of the SPAN, as digits (\"-\" ahead of one below 0); \"\" of an empty one.", () -> {
       Stepfunctions x = made("{0=-9999, 1=0, 199=9999}");
@@ -180,9 +198,19 @@ public final class AsksTest extends Sentences {
         due("", x.extreme(0, at, at, false));
       }
     });
-    sentence(39, "- `to`: where it ends (not in it)", () -> {
+    sentence(39, "- `from`: where a SPAN begins - `to`: where it ends (not in it)", () -> {
       due("0", made(STEPPED).extreme(0, 0, 10, true));
       due("5", made(STEPPED).extreme(0, 0, 11, true));
+      due("0", made(STEPPED).extreme(0, 9, 11, false));
+      due("5", made(STEPPED).extreme(0, 10, 11, false));
+    });
+    sentence(39, "- `isGreatest`: whether the greatest VALUE, otherwise the least", () -> {
+      Stepfunctions x = made(STEPPED);
+      due("5", x.extreme(0, 0, 200, true));
+      due("-3", x.extreme(0, 0, 200, false));
+      due("5", x.extreme(0, 19, 21, true));
+      due("-3", x.extreme(0, 19, 21, false));
+      due("5", x.extreme(0, 15, 16, false));
     });
   }
 
@@ -220,6 +248,17 @@ public final class AsksTest extends Sentences {
       betweenIs(200, 200, 0, 0, 0, 0);
       due(IndexOutOfBoundsException.class, thrownBy(() -> made(STEPPED).between(0, 1, 0, true, true)));
     });
+    sentence(40, "- `isWith`: whether a STEP at from counts - `isToo`: whether a STEP at to counts", () -> {
+      betweenIs(10, 30, 1, 2, 2, 3);
+      betweenIs(10, 31, 2, 3, 2, 3);
+      betweenIs(9, 30, 2, 2, 3, 3);
+      betweenIs(9, 31, 3, 3, 3, 3);
+    });
+    sentence(41, "- `isBelow`: whether STEPS up to there, otherwise from there on - `isWith`: whether one at that number counts", () -> {
+      sideIs(20, 2, 3, 1, 2);
+      sideIs(19, 2, 2, 2, 2);
+      sideIs(21, 3, 3, 1, 1);
+    });
     sentence(41, "Returns how many STEPS there are on that side.", () -> {
       sideIs(10, 1, 2, 2, 3);
       sideIs(0, 0, 1, 3, 4);
@@ -253,11 +292,20 @@ public final class AsksTest extends Sentences {
       due(198, x.edge(1, 0, 199, true));
       due(1, x.edge(1, 1, 2, true));
     });
-    sentence(42, "- `to`: where it ends (not in it)", () -> {
+    sentence(42, "- `from`: where a SPAN begins - `to`: where it ends (not in it)", () -> {
       due(NONE, made(STEPPED).edge(0, 1, 10, true));
       due(10, made(STEPPED).edge(0, 1, 11, true));
       due(NONE, made(STEPPED).edge(0, 1, 10, false));
       due(10, made(STEPPED).edge(0, 1, 11, false));
+      due(10, made(STEPPED).edge(0, 10, 11, true));
+      due(20, made(STEPPED).edge(0, 11, 21, false));
+    });
+    sentence(42, "- `isLast`: whether the last STEP in it, otherwise the first one", () -> {
+      Stepfunctions x = made(TIPPED);
+      due(199, x.edge(0, 0, 200, true));
+      due(0, x.edge(0, 0, 200, false));
+      due(2, x.edge(0, 1, 197, true));
+      due(1, x.edge(0, 1, 197, false));
     });
     sentence(43, "Returns the first PLACE of the STRETCH of that PLACE; with isEnd its last one.", () -> {
       Stepfunctions x = made(STEPPED, TIPPED);
@@ -270,6 +318,16 @@ public final class AsksTest extends Sentences {
         due(row[2], x.stretch(row[0], row[1], false));
         due(row[3], x.stretch(row[0], row[1], true));
       }
+    });
+  }
+
+  private static void isEndOfAStretch() {
+    sentence(43, "- `isEnd`: whether its end, otherwise its begin", () -> {
+      Stepfunctions x = made(STEPPED);
+      due(19, x.stretch(0, 10, true));
+      due(10, x.stretch(0, 19, false));
+      due(199, x.stretch(0, 199, true));
+      due(0, x.stretch(0, 0, false));
     });
   }
 
@@ -315,9 +373,11 @@ public final class AsksTest extends Sentences {
       }
     });
     sentence(45, "- `other`: a FUNCTION, or the same", () -> due(true, made(TIPPED).areSameIn(0, 0, 0, 200)));
-    sentence(45, "- `to`: where it ends (not in it)", () -> {
+    sentence(45, "- `from`: where a SPAN begins - `to`: where it ends (not in it)", () -> {
       due(true, made(STEPPED).areSameIn(0, 1, 0, 10));
       due(false, made(STEPPED).areSameIn(0, 1, 0, 11));
+      due(true, made(STEPPED).areSameIn(0, 1, 30, 200));
+      due(false, made(STEPPED).areSameIn(0, 1, 29, 200));
     });
     sentence(46, "Returns the first PLACE at which they have unlike VALUES; NONE without.", () -> {
       Stepfunctions x = made(TIPPED, TIPPED, STEPPED);
@@ -354,6 +414,41 @@ public final class AsksTest extends Sentences {
   // ---- the walk and the house
 
   private static void promises50To52() {
+    sentence(50, "A WALK begins (one that there is ends).", () -> {
+      Stepfunctions x = made(STEPPED, "{0=7, 50=8}");
+      x.walk(0);
+      x.goOn();
+      x.goOn();
+      due(2, x.walk(1));
+      due("", x.here());
+      due(0, x.goOn());
+      due("7", x.here());
+      due(4, x.walk(0));
+      due("", x.here());
+      due(0, x.goOn());
+      due("0", x.here());
+      due(1, x.house(4));
+    });
+    sentence(50, "- `one`: the FUNCTION over whose STEPS it goes", () -> {
+      Stepfunctions x = made("{0=1, 11=0}", "{0=2, 12=0}", "{0=3, 13=0}", "{0=4, 14=0}");
+      for (int one = 0; one < 4; one++) {
+        due(2, x.walk(one));
+        due(0, x.goOn());
+        due("" + (one + 1), x.here());
+        due(11 + one, x.goOn());
+        due(NONE, x.goOn());
+      }
+    });
+    sentence(51, "The WALK goes on.", () -> {
+      Stepfunctions x = made(STEPPED);
+      x.walk(0);
+      String told = "";
+      for (int k = 0; k < 4; k++) {
+        x.step(0, 3, true);
+        told += x.goOn() + "=" + x.here() + " ";
+      }
+      due("0=0 10=5 20=-3 30=0 ", told);
+    });
     sentence(50, "Returns how many STEPS it will tell.", () -> {
       Stepfunctions x = made(rungs(20));
       due(20, x.walk(0));
@@ -396,6 +491,15 @@ public final class AsksTest extends Sentences {
   }
 
   private static void promises53To56() {
+    sentence(53, "Knocks.", () -> {
+      Stepfunctions x = made(STEPPED);
+      x.walk(0);
+      due(1, x.knock());
+      due(1, x.house(3));
+      due(0, x.house(2));
+      due(1, x.house(4));
+      due(STEPPED, x.text(0));
+    });
     sentence(53, "Returns how often one knocked, with this.", () -> {
       Stepfunctions x = new Stepfunctions();
       for (int k = 1; k <= 512; k++) {
@@ -481,6 +585,7 @@ public final class AsksTest extends Sentences {
     promises29To33();
     promises34To39();
     promises40To43();
+    isEndOfAStretch();
     promises44To49();
     promises50To52();
     promises53To56();

@@ -148,7 +148,7 @@ public final class DescriptionTest extends Sentences {
       x.set(0, 199, 200, -9999);
       due("{0=9999, 1=0, 199=-9999}", x.text(0));
     });
-    sentence(DESCRIPTION, "the PLACE 0, and each PLACE whose VALUE is unlike that of the PLACE ahead (one less).", () -> {
+    sentence(DESCRIPTION, "STEPS of a FUNCTION: the PLACE 0, and each PLACE whose VALUE is unlike that of the PLACE ahead (one less).", () -> {
       Stepfunctions x = made("{0=0}", TIPPED);
       due(true, x.isStep(0, 0));
       due(false, x.isStep(0, 1));
@@ -163,7 +163,7 @@ public final class DescriptionTest extends Sentences {
       due(true, x.isStep(1, 199));
       due(false, x.isStep(1, 196));
     });
-    sentence(DESCRIPTION, "from the last STEP up to it on to the PLACE ahead of the next STEP behind it (without one to 199)", () -> {
+    sentence(DESCRIPTION, "STRETCH of a PLACE: from the last STEP up to it on to the PLACE ahead of the next STEP behind it (without one to 199).", () -> {
       Stepfunctions x = made(STEPPED);
       x.lift(0, 19, 1);
       due("{0=0, 10=1, 20=-3, 30=0}", x.text(0));
@@ -447,6 +447,93 @@ public final class DescriptionTest extends Sentences {
     });
   }
 
+  // ---- Description 2: WalkTest shows the same of each call, with its walk at each stage
+
+  private static void oneWalk() {
+    sentence(DESCRIPTION, "There is one WALK at most (none at first)", () -> {
+      Stepfunctions x = made(STEPPED, TIPPED);
+      due(0, x.house(4));
+      refused(x, y -> y.goOn());
+      x.walk(0);
+      due(1, x.house(4));
+      x.walk(1);
+      due(1, x.house(4));
+      x.flat(1, 0);
+      due(0, x.house(4));
+    });
+    sentence(DESCRIPTION, "over the STEPS of a FUNCTION as they are as it begins, from the first one on.", () -> {
+      Stepfunctions x = made(STEPPED);
+      x.set(0, 5, 200, 7);
+      due(2, x.walk(0));
+      due(0, x.goOn());
+      due(5, x.goOn());
+      due(NONE, x.goOn());
+    });
+  }
+
+  private static void theWalkIsLost() {
+    sentence(DESCRIPTION, "It is LOST by each call that may change that FUNCTION", () -> {
+      walkIsLost(true, x -> x.set(0, 10, 20, 6));
+      walkIsLost(true, x -> x.copy(1, 0));
+      walkIsLost(true, x -> x.swap(0, 1));
+      walkIsLost(true, x -> x.swap(1, 0));
+      walkIsLost(true, x -> x.sum(1, 1, 0));
+      walkIsLost(false, x -> x.set(1, 10, 20, 6));
+    });
+    sentence(DESCRIPTION, "(also if it does not, or is REFUSED;", () -> {
+      walkIsLost(true, x -> x.copy(0, 0));
+      walkIsLost(true, x -> x.swap(0, 0));
+      walkIsLost(true, x -> x.keepSteps(0, 0));
+      walkIsLost(true, x -> x.splice(0, 10, 20, 0));
+      walkIsLost(true, x -> x.meet(0, 0, 0));
+      walkIsLost(true, x -> x.set(0, 10, 10, 6));
+      walkIsLost(true, x -> x.glue(0, 10, 10));
+      walkIsLost(true, x -> x.restep(0, 10, 4, 6) ? 1 : 0);
+      walkIsLost(true, x -> x.unstep(0, 10, 4) ? 1 : 0);
+      walkIsLost(true, x -> x.dropStep(0, 11));
+      walkIsLost(true, x -> x.scale(0, 9));
+      walkIsLost(true, x -> x.less(0, 2, 0));
+    });
+    sentence(DESCRIPTION, "not if it throws;", () -> {
+      walkIsLost(false, x -> thrownBy(() -> x.flat(0, 10000)) == IllegalArgumentException.class ? 1 : 0);
+      walkIsLost(false, x -> thrownBy(() -> x.copy(4, 0)) == IndexOutOfBoundsException.class ? 1 : 0);
+      walkIsLost(false, x -> thrownBy(() -> x.swap(0, 4)) == IndexOutOfBoundsException.class ? 1 : 0);
+      walkIsLost(false, x -> thrownBy(() -> x.walk(4)) == IndexOutOfBoundsException.class ? 1 : 0);
+    });
+    sentence(DESCRIPTION, "not by one that only takes from it)", () -> {
+      walkIsLost(false, x -> x.copy(0, 1));
+      walkIsLost(false, x -> x.splice(1, 0, 200, 0));
+      walkIsLost(false, x -> x.keepSteps(1, 0));
+      walkIsLost(false, x -> x.loseSteps(1, 0));
+      walkIsLost(false, x -> x.sum(0, 0, 1));
+      walkIsLost(false, x -> x.choose(0, 0, 0, 3));
+      walkIsLost(false, x -> x.area(0, 0, 200));
+      walkIsLost(false, x -> x.text(0).length());
+    });
+    sentence(DESCRIPTION, "there is none then.", () -> {
+      Stepfunctions x = made(STEPPED);
+      x.walk(0);
+      x.goOn();
+      x.negate(0);
+      due(0, x.house(4));
+      due("", x.here());
+      refused(x, y -> y.goOn());
+      due("", x.here());
+    });
+  }
+
+  /** A walk over 0 that told its second step: lost by the call, or else it goes on. */
+  private static void walkIsLost(boolean isLost, ToIntFunction<Stepfunctions> call) {
+    Stepfunctions x = made("{0=0, 10=5, 20=-3000, 30=0}", TIPPED, "{0=9999}");
+    x.walk(0);
+    x.goOn();
+    x.goOn();
+    call.applyAsInt(x);
+    due(isLost ? 0 : 1, x.house(4));
+    due(isLost ? "" : "5", x.here());
+    due(isLost ? -9 : 20, x.goOn());
+  }
+
   public static void main(String[] args) throws IOException {
     numbers();
     exceptions();
@@ -456,6 +543,8 @@ public final class DescriptionTest extends Sentences {
     spans();
     stepsThatGo();
     toldAs();
+    oneWalk();
+    theWalkIsLost();
     end(DESCRIPTION, DESCRIPTION);
   }
 }

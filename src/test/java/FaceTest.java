@@ -17,7 +17,7 @@ public final class FaceTest {
   private static final String[] LEFT_OUT = {
     "\\bimport\\b", "\\bpackage\\b", "->", "::", "\\bsynchronized\\b", "\\bassert\\b", "\\bfinally\\b",
     "\\btry\\b", "\\bcatch\\b", "\\bstatic\\s*\\{", "\\w+Exact\\b", "\\bString\\.(format|valueOf|join)\\b",
-    "\\bInteger\\.(toString|parseInt)\\b", "\\bSystem\\.(?!arraycopy)", "\\bThread\\b", "\\bObject\\b",
+    "\\b(Integer|Long)\\.(toString|parse\\w+|MIN_VALUE|MAX_VALUE)\\b", "\\bSystem\\.(?!arraycopy)", "\\bThread\\b", "\\bObject\\b",
     "\\bhashCode\\b", "\\blambda\\b", "\\bdouble\\b", "\\bfloat\\b", "\"\\s*\\+", "\\+\\s*\""
   };
 

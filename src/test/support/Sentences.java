@@ -63,30 +63,63 @@ class Sentences extends Given {
 
   // ---- nothing is left out
 
-  /** In these words a line of the document names a boundary, if it is no "Throws" line. */
-  private static boolean namesABoundary(String line) {
-    return line.startsWith("Returns ") || line.startsWith("Creates ")
-        || line.startsWith("- ") && line.matches(".*(any number|: a number|or the same|one of|where it ends|which STEP|0 the).*")
-            && !line.matches(".*: whether .*");
+  /**
+   * Whether a line of a promise needs a test under its own words: what the call does, what it
+   * returns, and each argument of which the line says more than what the "Throws" line bounds.
+   */
+  private static boolean needsATest(String line) {
+    if (line.startsWith("- ")) {
+      return line.matches(".*(any number|: a number|or the same|one of|begins$|where it ends|which STEP|0 the|whether ).*");
+    }
+    return !line.isEmpty() && !line.startsWith("`") && !line.startsWith("----") && !line.startsWith("Throws ");
   }
 
-  /** Each quote stands in the document, and each line of these promises with a boundary is quoted. */
+  private static String onOneLine(String text) {
+    return text.replaceAll("\\s+", " ");
+  }
+
+  /** Each quote stands in the document, and each line of these promises that needs a test is quoted. */
   private static void allAreTested(int first, int last) throws IOException {
     String document = Files.readString(Path.of("../shared/DOC.md"));
     String[] parts = document.split("(?m)^## (?=Promise|Not promised)");
     for (int promise = first; promise <= last; promise++) {
       List<String> quotes = QUOTES.getOrDefault(promise, List.of());
-      String words = parts[promise].replaceAll("\\s+", " ");
+      String words = onOneLine(parts[promise]);
       for (String quote : quotes) {
         if (!words.contains(quote)) {
           fail("promise " + promise + ": the document has no sentence " + quote);
         }
       }
-      for (String line : parts[promise].split("\n")) {
-        boolean isQuoted = quotes.stream().anyMatch(line::contains);
-        if (promise != DESCRIPTION && namesABoundary(line) && !isQuoted) {
+      if (promise == DESCRIPTION) {
+        allOfTheDescription(words, quotes);
+        continue;
+      }
+      for (String line : parts[promise].substring(parts[promise].indexOf('\n')).split("\n")) {
+        boolean isQuoted = quotes.stream().anyMatch(quote -> line.contains(quote) || quote.contains(line.strip()));
+        if (needsATest(line.strip()) && !isQuoted) {
           fail("promise " + promise + ": no test of " + line);
         }
+      }
+    }
+  }
+
+  /** What is left of the Description without what is quoted are its headings alone. */
+  private static void allOfTheDescription(String words, List<String> quotes) {
+    String left = words.substring(words.indexOf("## Description ") + "## Description ".length());
+    List<String> longestFirst = new ArrayList<>(quotes);
+    longestFirst.sort((a, b) -> b.length() - a.length());
+    for (String quote : longestFirst) {
+      left = left.replace(quote, " | ");
+    }
+    for (String heading : new String[] {
+      "Whole numbers.", "1. Functions, steps", "2. A walk",
+      "The constructor and the methods follow, a promise each: the signature, then what it does."
+    }) {
+      left = left.replace(heading, " | ");
+    }
+    for (String piece : left.split("\\|")) {
+      if (!piece.matches("[ .:;,]*")) {
+        fail("the Description: no test of " + piece.strip());
       }
     }
   }
