@@ -8,7 +8,7 @@ import java.util.TreeMap;
 import java.util.function.ToIntFunction;
 
 /**
- * The document read sentence by sentence: each that names a boundary stands in a test in its own
+ * The document read sentence by sentence: each that says what a call does stands in a test in its own
  * words, with a test of its own. Its "Throws" lines are tested one by one in WrongInputsTest, and
  * which calls lose a WALK in WalkTest.
  */
